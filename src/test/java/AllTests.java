@@ -1,0 +1,26 @@
+/** Runs every test of the project; ends with exit code 1 if one failed. */
+public final class AllTests {
+    private static final int PROMISES = 31;
+
+    private AllTests() {
+    }
+
+    public static void main(String[] args) throws Exception {
+        RowTests.run();
+        TextTests.run();
+        YearTests.run();
+        ForetoldTests.run();
+        AskTests.run();
+        for (int promise = 1; promise <= PROMISES; promise++) {
+            if (!Check.byPromise.containsKey(promise)) {
+                Check.due(promise, "a test", 0, 1);
+            }
+        }
+        FaceTests.run(args.length > 0 ? args[0] : "src/main/java/OldNews.java");
+        ModelTest.run();
+        System.out.println(Check.passed + " passed, " + Check.failed + " failed");
+        if (Check.failed > 0) {
+            System.exit(1);
+        }
+    }
+}
