@@ -758,9 +758,8 @@ public final class OldNews {
             }
         }
 
-        /** As begin(), for one piece that the keepers in a set had, and with nothing lost. */
+        /** As begin(), for one piece that the keepers in a set had. */
         void beginWith(int set) {
-            lost = 0;
             news = 1;
             seen[0] = set;
             begin();
@@ -955,7 +954,7 @@ public final class OldNews {
     /** What can be foretold of a land, which stays as it is: years go by in a land on trial. */
     private static final class Foretold {
         static final int MOST_MONEY = 99999;
-        private static final int ORDERS = 720;
+        private static final int ORDERS = 120;
 
         int leastSum;
         private int buyable;
@@ -1173,7 +1172,7 @@ public final class OldNews {
             }
             trial.beginWith(set);
             for (int y = 0; y <= trial.last; y++) {
-                // What spreads and what copies cost does not change who sells, so the year only sells.
+                // Nothing is lost, and who knows and what copies cost do not change who sells.
                 trial.sellAll();
                 if (!hasSoldJustSo(y)) {
                     return false;

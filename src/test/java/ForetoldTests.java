@@ -15,6 +15,7 @@ final class ForetoldTests {
         lostUse();
         silence();
         corner();
+        cornerOfFive();
         cornerCut();
         cornerRefused();
         make();
@@ -53,6 +54,10 @@ final class ForetoldTests {
         Check.due(14, "a copy costs what a year brings", dear.alone(0, 2, 1), 0);
         Check.due(14, "alone there is no cost", dear.alone(0, 1, 1), 5);
         // Waiting is dearer in years 1 and 2, selling in 0 and 3.
+        OldNews beyond = Check.on("law old 3;worth 0 100;worth 3 400;worth 4 9999;chest 0 0 0;keeper now 0 1;");
+        Check.due(14, "LAST is the last", beyond.alone(0, 1, 0), 400);
+        Check.due(14, "LAST is the last", beyond.alone(0, 1, 1), 3);
+        Check.due(16, "LAST is the last", beyond.two(3, 0, 1), 200);
         OldNews hill = Check.on("law old 4;worth 0 99;worth 1 10;worth 3 100;worth 4 1;chest 0 0 1;keeper now 0 1;");
         Check.due(14, "the first of several", hill.alone(0, 2, 1), 0);
         Check.due(14, "the next one", hill.alone(1, 2, 1), 3);
@@ -98,6 +103,8 @@ final class ForetoldTests {
         Check.due(16, "a half is cut", none.two(2, 100, 1), 50);
         Check.due(16, "no gain: chance", none.two(1, 100, 0), 0);
         Check.due(16, "no gain: value", none.two(1, 100, 1), 50);
+        Check.due(16, "no gain, no loss: chance", none.two(1, 0, 0), 0);
+        Check.due(16, "no gain, no loss: value", none.two(1, 0, 1), 50);
         OldNews gain = Check.on("law old 2;worth 1 51;worth 2 100;chest 0 0 0;keeper now 0 1;");
         Check.due(16, "some gain, no loss: chance", gain.two(1, 50, 0), 1000);
         Check.due(16, "some gain, no loss: value", gain.two(1, 50, 1), 25);
@@ -171,6 +178,21 @@ final class ForetoldTests {
         Check.due(20, "for eight", x.corner(3, 0, 0, -1), 0);
         Check.due(20, "all alike: by keepers", x.corner(3, 0, 0, 0), 0);
         Check.due(20, "all alike: by keepers", x.corner(3, 0, 0, 2), 2);
+    }
+
+    private static void cornerOfFive() {
+        OldNews x = Check.on("law old 9;worth 0 6000;chest 0 0 0;keeper now 0 1;keeper now 10 1;keeper now 20 1;keeper now 30 1;"
+            + "keeper now 40 1;keeper now 60 1;news 1 0 1 2 3 4 5;news 1 2 4 0 5;");
+        int[] order = {4, 3, 2, 1, 0};
+        for (int place = 0; place < 5; place++) {
+            Check.due(20, "of five, place " + place, x.corner(5, 0, 0, place), order[place]);
+        }
+        Check.due(20, "of five, no more", x.corner(5, 0, 0, 5), OldNews.NONE);
+        Check.due(20, "of five, the sum", x.corner(5, 0, 0, -1), 1400 + 1430 + 1440 + 1430 + 1400);
+        Check.due(20, "of three, the first", x.corner(2, 1, 0, 0), 5);
+        Check.due(20, "of three, the last", x.corner(2, 1, 0, 2), 0);
+        // 1500 each: 160 100, 140 110, 100 120.
+        Check.due(20, "of three, the sum", x.corner(2, 1, 0, -1), 2400 + 2310 + 1800);
     }
 
     private static void cornerCut() {
@@ -292,6 +314,11 @@ final class ForetoldTests {
         x.go(2, 1);
         x.tell(0, 0, 1);
         Check.due(23, "as at first", x.laws(0), 5 - 6);
+        OldNews all = Check.on("law old 60;worth 0 600;chest 1 20 999;keeper silent 0 9;keeper silent 0 9;keeper silent 0 9;"
+            + "keeper silent 0 9;keeper now 0 9;keeper now 0 9;news 0 0 1 2 3 4 5;news 0 0 1 2 3 4 5;news 0 0 1 2 3 4 5;"
+            + "news 0 0 1 2 3 4 5;news 0 0 1 2 3 4 5;news 0 0 1 2 3 4 5;news 0 0 1 2 3 4 5;news 0 0 1 2 3 4 5;");
+        all.go(1, 4);
+        Check.due(23, "nothing is lost", all.laws(0), 16 * 100 - 61 * 6 * 64 * 999);
         Check.due(23, "law 2", x.laws(2), OldNews.BAD);
         Check.due(23, "law below", x.laws(-1), OldNews.BAD);
         Check.due(23, "STATE is ahead of BAD", new OldNews().laws(2), OldNews.STATE);

@@ -83,6 +83,12 @@ final class TextTests {
         faulty(" worth", 1, 1);
         faulty("Law old 9;", 0, 1);
         faulty("laws old 9;", 0, 1);
+        faulty("lawz old 9;", 0, 1);
+        faulty("alaw old 9;", 0, 1);
+        faulty("law{old 9;", 3, 1);
+        faulty("law`old 9;", 3, 1);
+        faulty("law old /;", 8, 1);
+        faulty("law old :;", 8, 1);
         faulty("la", 0, 1);
         faulty("law 9;", 4, 1);
         faulty("law older 9;", 4, 1);
@@ -136,6 +142,10 @@ final class TextTests {
         faulty(SHORT + "news 999 0", 57, 1);
         faulty(SHORT + "news 999;keeper now 0 1;", 56, 1);
         faulty(SHORT + ";", 47, 1);
+        faulty(SHORT + "#", 47, 1);
+        faulty(SHORT + "news 1;news 2 0; \u0000", 64, 1);
+        faulty(SHORT + "12345", 47, 1);
+        faulty(SHORT + "1234", 47, 1);
     }
 
     private static String times(int n, String text) {
@@ -199,6 +209,17 @@ final class TextTests {
         Check.due(7, "points", x.count(3), 1);
         Check.due(7, "rows stay", x.drop(2), 3);
         Check.dueAll(7, "the trace stays", Check.traceOf(x), 21, 20);
+        x.go(1, 1);
+        Check.due(7, "a third one", Check.land(x, "law old 1;worth 0 9999;chest 500 20 999;keeper now 60 9;"), 1);
+        int[] counts = {1, 1, 0, 1, 0, 0, 1, 0};
+        for (int what = 1; what < 8; what++) {
+            Check.due(7, "count " + what + " of a third one", x.count(what), counts[what]);
+        }
+        Check.land(x, "law old 60;worth 0 1;worth 60 0;chest 0 0 0;keeper now 0 1;keeper now 0 1;news 0 0;news 0;news 1;");
+        Check.due(7, "points of a fourth one", x.count(3), 2);
+        Check.due(7, "news of a fourth one", x.count(2), 3);
+        Check.due(7, "nothing earned in a fourth one", x.keeper(0, 0) + x.keeper(1, 0), 0);
+        Check.due(7, "nothing sold in a fourth one", x.keeper(0, 2) + x.keeper(1, 2), 0);
         Check.due(7, "images stay", x.restore(1), 1);
         Check.due(7, "images stay", x.kind(1), 2);
     }
