@@ -11,6 +11,12 @@ public final class AllTests {
         YearTests.run();
         ForetoldTests.run();
         AskTests.run();
+        RowBounds.run();
+        TextBounds.run();
+        YearBounds.run();
+        ForetoldBounds.run();
+        AskBounds.run();
+        RefusedTests.run();
         for (int promise = 1; promise <= PROMISES; promise++) {
             if (!Check.byPromise.containsKey(promise)) {
                 Check.due(promise, "a test", 0, 1);

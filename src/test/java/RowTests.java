@@ -15,7 +15,8 @@ final class RowTests {
         drop();
     }
 
-    private static OldNews agesOf(int... ages) {
+    /** Keepers by age, of whom a row of just these years fits all: so a row is read. */
+    static OldNews agesOf(int... ages) {
         StringBuilder text = new StringBuilder("law old 60;worth 0 1;chest 0 0 0;");
         for (int age : ages) {
             text.append("keeper age ").append(age).append(" 1;");
@@ -23,7 +24,7 @@ final class RowTests {
         return Check.on(text.toString());
     }
 
-    private static void fill(OldNews x, int row, int... items) {
+    static void fill(OldNews x, int row, int... items) {
         x.row(row, 2, items.length);
         for (int i = 0; i < items.length; i++) {
             x.set(row, i, items[i]);

@@ -20,7 +20,7 @@ final class YearTests {
     }
 
     /** A land of worth 60 in which all keepers saw the one piece. */
-    private static OldNews seenByAll(String chest, String... keepers) {
+    static OldNews seenByAll(String chest, String... keepers) {
         StringBuilder text = new StringBuilder("law old 60;worth 0 60;chest " + chest + ";");
         StringBuilder news = new StringBuilder("news 0");
         for (int k = 0; k < keepers.length; k++) {
@@ -31,7 +31,7 @@ final class YearTests {
     }
 
     /** The years in which the keepers sell piece 0, each by 1 year gone; -1: not in the first 20. */
-    private static int[] saleYears(OldNews x) {
+    static int[] saleYears(OldNews x) {
         int[] years = new int[x.count(1)];
         java.util.Arrays.fill(years, -1);
         for (int y = 0; y < 20; y++) {
