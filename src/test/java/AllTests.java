@@ -17,6 +17,7 @@ public final class AllTests {
         ForetoldBounds.run();
         AskBounds.run();
         RefusedTests.run();
+        KeptTests.run();
         for (int promise = 1; promise <= PROMISES; promise++) {
             if (!Check.byPromise.containsKey(promise)) {
                 Check.due(promise, "a test", 0, 1);

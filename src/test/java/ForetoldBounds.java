@@ -26,6 +26,7 @@ final class ForetoldBounds {
         cornerOfSoMany();
         cornerForSoMany();
         cornerOfSeveral();
+        cornerIsCut();
         makeOrNot();
         edge();
         fitOfOne();
@@ -341,6 +342,20 @@ final class ForetoldBounds {
         for (int place = 0; place < 3; place++) {
             Check.due(20, "worth nothing: by keepers", none.corner(0, 0, 0, place), place + 1);
         }
+    }
+
+    private static void cornerIsCut() {
+        // 3 each. N 27 first: 3 times 127 by 100 and 3 times 110 by 100: 3 and 3; N 27 behind: 3 and 3 times 110 127 by 10000: 4.
+        OldNews x = Check.on("law old 9;worth 0 9;chest 0 0 0;keeper now 0 1;keeper age 27 2;keeper silent 20 3;news 1 0 1 2;");
+        Check.due(20, "each is cut, not the sum", x.corner(2, 0, 0, -1), 6);
+        Check.due(20, "by what is left", x.corner(2, 0, 0, 0), 1);
+        // 1 each: 150 by 100 and 110 by 100, 1 and 165 by 100: alike when cut.
+        OldNews alike = Check.on("law old 9;worth 0 3;chest 0 0 0;keeper now 0 1;keeper age 50 2;keeper silent 20 3;news 1 0 1 2;");
+        Check.due(20, "alike when cut", alike.corner(2, 0, 0, -1), 2);
+        Check.due(20, "alike when cut: by keepers", alike.corner(2, 0, 0, 0), 0);
+        // 1 by 2, cut, ahead of all else.
+        OldNews none = Check.on("law old 9;worth 0 1;chest 0 0 0;keeper now 60 1;keeper age 60 2;news 1 0 1;");
+        Check.due(20, "worth less than 1", none.corner(0, 0, 0, -1), 0);
     }
 
     private static void makeOrNot() {

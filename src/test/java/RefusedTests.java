@@ -46,11 +46,10 @@ final class RefusedTests {
             Check.due(promise, told + " again", call.of(x, a), want);
             List<String> seen = Scene.look(x);
             boolean isFound = want <= NULL && want >= STORE;
-            for (int i = 0; i < left.size(); i++) {
-                String due = isFound && i == 0 ? "status: " + (-1000010 - want) : left.get(i);
-                boolean same = due.equals(seen.get(i));
-                Check.due(promise, told + " leaves " + due + (same ? "" : ", not " + seen.get(i)), same ? 1 : 0, 1);
+            if (isFound) {
+                Check.due(31, told, seen.get(0).equals("status: " + (-1000010 - want)) ? 1 : 0, 1);
             }
+            Scene.isAsLeft(promise, told, seen, left, isFound ? new String[] {"status"} : new String[0]);
         }
     }
 
@@ -168,15 +167,7 @@ final class RefusedTests {
     private static void images() {
         refused(24, "image", BAD, (x, a) -> x.image(a[0]), of(-1), of(2), of(MAX));
         refused(25, "restore", BAD, (x, a) -> x.restore(a[0]), of(-1), of(2), of(MIN));
-        Supplier<OldNews> one = () -> {
-            OldNews x = Scene.bare();
-            Check.feed(x, "st 0 0 0;keeper now 3 1;news 8 0;");
-            x.land();
-            x.image(1);
-            Check.feed(x, "law old 60;worth 0 7;che");
-            return x;
-        };
-        refusedIn(one, 25, "restore of the one that was not kept", STATE, (x, a) -> x.restore(a[0]), of(0));
+        refusedIn(Scene::withOneImage, 25, "restore of the one that was not kept", STATE, (x, a) -> x.restore(a[0]), of(0));
     }
 
     private static void asked() {
@@ -223,7 +214,7 @@ final class RefusedTests {
     private static void fullTape() {
         String text = "law old 60;worth 0 7;chest 0 0 0;keeper now 0 1;";
         OldNews x = Scene.told();
-        Check.feed(x, "st 0 0 0;keeper now 0 1;" + " ".repeat(499 - text.length()));
+        Check.feed(x, "chest 0 0 0;keeper now 0 1;" + " ".repeat(499 - text.length()));
         Check.due(6, "a byte less than full", x.count(5), 499);
         Check.due(6, "two more", x.feed(' ' << 8 | ';', 2), FULL);
         Check.due(6, "eight more", x.feed(-1, 8), FULL);

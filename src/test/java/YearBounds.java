@@ -25,6 +25,7 @@ final class YearBounds {
         spread();
         cost();
         earnedBelowNone();
+        asOftenAsAnObjectIsUsed();
         telling();
         tellingRefused();
         ofAKeeper();
@@ -393,6 +394,31 @@ final class YearBounds {
         Check.due(12, "as much as it cost", x.keeper(0, 0), 0);
         x.go(1, 1);
         Check.due(12, "below none", x.keeper(0, 0), -60);
+    }
+
+    /** 512 calls, most of them of 60 years: nothing that is summed wraps around. */
+    private static void asOftenAsAnObjectIsUsed() {
+        StringBuilder text = new StringBuilder("law old 60;worth 0 60;chest 0 20 999;keeper watch 0 9;keeper now 0 9;keeper silent 0 9;");
+        for (int p = 0; p < 8; p++) {
+            text.append("news 0 0 1 2;");
+        }
+        OldNews x = Check.on(text.toString());
+        int years = 0;
+        for (int i = (text.length() + 7) / 8 + 1 + 9; i < 512; i++) {
+            years += 60;
+            Check.due(10, "years gone", x.go(60, 999999), years);
+        }
+        int cost = -years * 8 * 8 * 999;
+        Check.due(10, "far below none, not around", cost < -1800000000 ? 1 : 0, 1);
+        Check.due(12, "EARNED, far below none", x.keeper(0, 0), cost + 8 * 20);
+        Check.due(12, "EARNED, far below none", x.keeper(1, 0), cost + 8 * 20);
+        Check.due(12, "EARNED, far below none", x.keeper(2, 0), cost);
+        Check.due(13, "how many know it", x.piece(7, 2), 20 * years);
+        Check.due(13, "worth for so many", x.piece(7, 4), 0);
+        Check.due(28, "SIZE of one who watches", x.ask(0, 0), -(cost + 8 * 20));
+        Check.due(28, "MARK of one who sells now", x.ask(1, 1), 1 - (cost + 8 * 20));
+        Check.due(28, "SIZE of one who is silent", x.ask(2, 0), cost - 100);
+        Check.due(30, "years gone", x.count(4), years);
     }
 
     private static void telling() {
