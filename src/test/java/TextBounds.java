@@ -181,6 +181,12 @@ final class TextBounds {
         faulty(1, LAW + "worth ^00000 1;");
         faulty(1, "law old ^00009;");
         faulty(1, "law old ^0000000009;");
+        // 9 more than 32 bits, and than 64 bits, can hold: it does not wrap around to 9.
+        faulty(1, "law old ^4294967305;");
+        faulty(1, "law old ^18446744073709551625;");
+        faulty(1, "law old ^" + "9".repeat(491) + ";");
+        faulty(1, "^" + "9".repeat(500));
+        faulty(1, "^" + "a".repeat(500));
         Check.due(7, "noughts ahead", read("law old 0060;" + WORTH + CHEST + KEEPER, 1).count(6), 60);
         faulty(2, "law old ^0061;");
         faulty(1, SHORT + "news 0 ^00000;");
