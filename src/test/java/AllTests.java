@@ -23,7 +23,9 @@ public final class AllTests {
                 Check.due(promise, "a test", 0, 1);
             }
         }
-        FaceTests.run(args.length > 0 ? args[0] : "src/main/java/OldNews.java");
+        FaceTests.run();
+        LanguageTests.run(args.length > 0 ? args[0] : "src/main/java/OldNews.java");
+        ReadmeTests.run(args.length > 1 ? args[1] : "README.md");
         ModelTest.run();
         System.out.println(Check.passed + " passed, " + Check.failed + " failed");
         if (Check.failed > 0) {

@@ -2,31 +2,24 @@ import java.lang.reflect.Constructor;
 import java.lang.reflect.Field;
 import java.lang.reflect.Method;
 import java.lang.reflect.Modifier;
-import java.nio.file.Files;
-import java.nio.file.Path;
 import java.util.Arrays;
 import java.util.Set;
 import java.util.TreeSet;
-import java.util.regex.Matcher;
-import java.util.regex.Pattern;
 
-/** The face of the class, and as much of LANGUAGE.md as can be seen by its words. */
+/** The face of the class: what the document names, and nothing else. */
 final class FaceTests {
     private static final String[] FACE = {"row III", "set III", "copy IIIII", "drop I", "feed JI", "land ", "fault ", "value I",
         "go II", "tell III", "keeper II", "piece II", "alone III", "best I", "two III", "think III", "lostUse III", "silence IIIII",
         "corner IIII", "make III", "fit II", "laws I", "image I", "restore I", "kind I", "as II", "ask II", "trace I", "count I",
         "status "};
-    private static final String[] WORDS = {"throw", "throws", "try", "catch", "finally", "synchronized", "assert", "System\\.out",
-        "Object", "Random", "Thread", "->", "::", "package", "static \\{", "new \\w+\\(.*\\) \\{", "\\w+Exact"};
 
     private FaceTests() {
     }
 
-    static void run(String source) throws Exception {
+    static void run() throws Exception {
         constants();
         methods();
         nothingElse();
-        words(Files.readString(Path.of(source)));
     }
 
     private static void constants() throws Exception {
@@ -75,36 +68,8 @@ final class FaceTests {
         Check.due(0, "one constructor", made.length, 1);
         Check.due(0, "it is public", made[0].getModifiers(), Modifier.PUBLIC);
         Check.due(0, "the class is public and final", OldNews.class.getModifiers(), Modifier.PUBLIC | Modifier.FINAL);
-        int classes = 1;
         for (Class<?> c : OldNews.class.getDeclaredClasses()) {
-            classes++;
             Check.due(0, c + " is private and static", c.getModifiers() & (Modifier.PRIVATE | Modifier.STATIC), Modifier.PRIVATE | Modifier.STATIC);
-            int fields = 0;
-            for (Field f : c.getDeclaredFields()) {
-                fields += Modifier.isStatic(f.getModifiers()) ? 0 : 1;
-                boolean isChanging = Modifier.isStatic(f.getModifiers()) && !Modifier.isFinal(f.getModifiers());
-                Check.due(0, f + " is static and changes", isChanging ? 1 : 0, 0);
-            }
-            Check.due(0, c + " has some twenty fields", fields <= 20 ? 1 : 0, 1);
         }
-        Check.due(0, "some twelve classes", classes <= 12 ? 1 : 0, 1);
-    }
-
-    private static void words(String source) {
-        String code = source.replaceAll("(?s)/\\*.*?\\*/|//[^\n]*", "");
-        for (String word : WORDS) {
-            Matcher m = Pattern.compile(word.matches("\\w+") ? "\\b" + word + "\\b" : word).matcher(code);
-            Check.due(0, "the source says " + word, m.find() ? 1 : 0, 0);
-        }
-        Matcher imports = Pattern.compile("(?m)^import (.*);").matcher(source);
-        while (imports.find()) {
-            Check.due(0, "import " + imports.group(1), imports.group(1).equals("java.util.Arrays") ? 1 : 0, 1);
-        }
-        int longest = 0;
-        for (String method : source.split("\n    (?=\\S)|\n        (?=[^ }].*\\{\n)")) {
-            longest = Math.max(longest, method.split("\n").length);
-        }
-        Check.due(0, "methods of some sixty lines: " + longest, longest <= 60 ? 1 : 0, 1);
-        Check.due(0, "signs of 1 to 127", source.chars().allMatch(c -> c < 128) ? 1 : 0, 1);
     }
 }
